@@ -11,6 +11,7 @@ public final class BatchesTest {
         cracks();
         undo();
         undoBringsAllBack();
+        undoBringsSettingsBack();
         CHECK.finish();
     }
 
@@ -71,11 +72,15 @@ public final class BatchesTest {
         k.setAmbient(249);
         due("151 above the ambient", k.takeAway(), Check.STATE);
         k.setAmbient(250);
-        int recorded = k.count(11);
+        due("history", k.count(11), 5);
+        k.undo();
+        k.setAmbient(250);
         due("150 above the ambient", k.takeAway(), 400);
         due("empty", k.count(1), 0);
-        due("takeAway is an action", recorded + k.undo(), 9);
-        due("cooling again", k.count(1), 2);
+        k.undo();
+        due("takeAway is an action: cooling again", k.count(1), 2);
+        due("the beans are back", k.batch(0), 400);
+        due("the ambient stays", k.count(4), 250);
     }
 
     private static void run() {
@@ -254,6 +259,58 @@ public final class BatchesTest {
         k.drop();
         due("numbers start anew", k.logged(0, 0), 1);
         due("the fouling is back", k.count(6), 4);
+    }
+
+    private static void undoBringsSettingsBack() {
+        RoastKeeper k = new RoastKeeper();
+        k.setAmbient(260);
+        k.setPower(6);
+        k.setController(1, 1, 2, 3);
+        k.setProbe(7, 2);
+        k.undo();
+        due("lag", k.setProbe(4, 0), 4);
+        k.undo();
+        k.undo();
+        due("controller", k.setController(0, 50, 5, 50), 0);
+        k.undo();
+        k.undo();
+        due("power", k.count(5), 0);
+        k.undo();
+        due("ambient", k.setAmbient(250), 250);
+        k.setCrack(1500, 600);
+        k.setFan(9);
+        k.setPoint(1, 1);
+        k.setRow(1, 1);
+        k.undo();
+        due("rate", k.rate(1), 0);
+        k.undo();
+        due("target", k.target(1), Check.NONE);
+        k.undo();
+        due("fan", k.setFan(10), 10);
+        k.undo();
+        k.undo();
+        due("crack", k.setCrack(1960, 30), 0);
+
+        k = hot(103);
+        k.run(15);
+        k.drop();
+        k.setFan(50);
+        k.run(30);
+        k.takeAway();
+        k.charge(900);
+        k.run(4);
+        k.drop();
+        due("two in the log", k.logged(1, 0), 1);
+        k.undo();
+        due("one in the log", k.logged(1, 0), Check.NONE);
+        due("its number", k.logged(0, 0), 1);
+        due("its age", k.logged(0, 1), 15);
+        k.undo();
+        k.undo();
+        k.undo();
+        due("beans of the first batch", k.batch(1), 100);
+        due("its crack", k.batch(7), 9);
+        due("its crack has not ended", k.batch(8), Check.NONE);
     }
 
     private static void look(RoastKeeper k, int[] numbers) {

@@ -4,6 +4,7 @@ public final class ForecastTest {
 
     public static void main(String[] args) {
         ticksTo();
+        ticksToTheLastTick();
         ticksToLoss();
         beyondTheTime();
         bestBias();
@@ -48,6 +49,31 @@ public final class ForecastTest {
         k = new RoastKeeper();
         k.charge(100);
         due("never", k.ticksTo(251), Check.NONE);
+    }
+
+    private static void ticksToTheLastTick() {
+        RoastKeeper k = rising();
+        RoastKeeper ahead = rising();
+        ahead.run(199);
+        int at199 = ahead.batch(0);
+        ahead.run(1);
+        int at200 = ahead.batch(0);
+        ahead.run(1);
+        int at201 = ahead.batch(0);
+        CHECK.due("it still rises then", at199 < at200 && at200 < at201 ? 1 : 0, 1);
+        due("the 199th tick", k.ticksTo(at199), 199);
+        due("the 200th tick", k.ticksTo(at200), 200);
+        due("no 201st tick", k.ticksTo(at201), Check.NONE);
+    }
+
+    /** Beans that become hotter in each tick, behind a profile of one long rise. */
+    private static RoastKeeper rising() {
+        RoastKeeper k = new RoastKeeper();
+        k.setPoint(0, 250);
+        k.setPoint(400, 3000);
+        k.setController(1, 50, 5, 50);
+        k.charge(300);
+        return k;
     }
 
     private static void ticksToLoss() {

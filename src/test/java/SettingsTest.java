@@ -65,6 +65,12 @@ public final class SettingsTest {
         due("beans have the ambient", k.batch(0), 400);
         k.setAmbient(300);
         due("beans keep theirs", k.batch(0), 400);
+        // the drum: + (8 * 1 - (250 - 256) / 5) / 10 = 10 / 10, as -6 / 5 is -2
+        k = new RoastKeeper();
+        k.setAmbient(256);
+        k.setPower(1);
+        k.run(1);
+        due("drum, rounded down twice", k.count(2), 251);
     }
 
     private static void setPower() {
@@ -137,6 +143,13 @@ public final class SettingsTest {
         k.run(200);
         due("sum is at least -20000", k.count(7), -20000);
 
+        due("P: 99 * 100 / 100", powerFor(100, 0, 349), 99);
+        due("P: 100 * 99 / 100", powerFor(99, 0, 350), 99);
+        due("I: 540 * 185 / 1000", powerFor(0, 185, 790), 99);
+        due("I: 500 * 198 / 1000", powerFor(0, 198, 750), 99);
+        // each product is divided by itself: 90 / 100 + 900 / 1000 is 0 and not 1
+        due("P and I", powerFor(1, 10, 340), 0);
+
         k = new RoastKeeper();
         k.setPoint(400, 3000);
         k.setController(1, 200, 200, 0);
@@ -152,6 +165,16 @@ public final class SettingsTest {
         k.takeAway();
         k.charge(100);
         due("a charge sets the sum to 0", k.count(7), 0);
+    }
+
+    /** The power after the first tick of a cold roaster, with a bias of 0. */
+    private static int powerFor(int p, int i, int target) {
+        RoastKeeper k = new RoastKeeper();
+        k.setPoint(0, target);
+        k.setController(1, p, i, 0);
+        k.charge(100);
+        k.run(1);
+        return k.count(5);
     }
 
     private static void controllerRests() {
