@@ -881,11 +881,11 @@ public final class RoastKeeper {
         }
 
         private boolean takes(int expected, Text text, int start, int end) {
-            if (expected == SEMICOLON) {
-                return text.character(start) == ';';
+            switch (expected) {
+                case TICK: return takesTick(text.numberIn(start, end));
+                case TEMPERATURE: return takesTemperature(text.numberIn(start, end));
+                default: return text.character(start) == ';';
             }
-            int number = text.numberIn(start, end);
-            return expected == TICK ? takesTick(number) : takesTemperature(number);
         }
 
         private boolean takesTick(int number) {

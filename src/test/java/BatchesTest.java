@@ -157,6 +157,17 @@ public final class BatchesTest {
         k = Check.roasting(1000, 100, 1);
         due("drum not cooled yet", k.count(2), 330);
         due("beans follow the new drum", k.batch(0), 254);
+
+        // the drum: 330 + (800 - 80 / 5) / 10 = 408, and 80 * mass / 20000 less
+        int[][] drums = {{249, 408}, {250, 407}, {499, 407}, {500, 406}, {1000, 404}};
+        for (int[] row : drums) {
+            k = new RoastKeeper();
+            k.setPower(100);
+            k.run(1);
+            k.charge(row[0]);
+            k.run(1);
+            due("drum with a mass of " + row[0], k.count(2), row[1]);
+        }
     }
 
     private static void cracks() {
@@ -200,14 +211,18 @@ public final class BatchesTest {
         due("not below the crack temperature", k.batch(5), 1);
         due("one pop is enough", k.batch(7), 8);
 
+        k.run(4);
         k.drop();
         k.setFan(50);
         k.run(20);
         k.takeAway();
         k.charge(100);
         due("a new batch has no pops", k.batch(4), 0);
+        due("a new batch has no latest pops", k.batch(5), 0);
         due("a new batch has no window", k.batch(6), 0);
         due("a new batch has no crack", k.batch(7), Check.NONE);
+        k.run(1);
+        due("the window does not reach back into another batch", k.batch(6), 0);
     }
 
     private static void undo() {

@@ -165,6 +165,13 @@ public final class ForecastTest {
         due("the sum stays", k.count(7), 10000);
         due("the power stays", k.count(5), 0);
         due("the controller stays", k.setController(0, 0, 2, 99), 0);
+        k = cold(0, 0, 3000);
+        k.setController(1, 0, 0, 0);
+        k.run(1);
+        k.setController(0, 0, 9, 99);
+        k.setPoint(0, 251);
+        // the sum becomes 2751: + 9 * 2751 / 1000 = 24, where 25 are wanted
+        due("with a smaller sum", k.bestBias(1), 1);
     }
 
     private static void bestBiasOverMoreTicks() {

@@ -32,10 +32,17 @@ public final class ModelTest {
             call("setPower", 60 + pick(41));
             call("run", 200);
         }
+        // Only runs with many whole batches fill the log and come to the end of the time.
+        boolean busy = number % 4 == 0;
         while (calls < CALLS && check.allRight()) {
-            step();
+            if (busy && pick(3) == 0) {
+                wholeBatch();
+            } else {
+                step();
+            }
         }
         lookAtAll();
+        check.due(run + "no more than 512 calls", Math.max(calls, 512), 512);
     }
 
     private int pick(int below) {
@@ -43,12 +50,14 @@ public final class ModelTest {
         return (int) Math.floorMod(seed >> 33, (long) below);
     }
 
-    /** Mostly a number of the range, at times an edge of it or a number beside it. */
+    /** Mostly a number of the range, at times an edge of it, a number beside it or one far away. */
     private int near(int from, int to) {
-        switch (pick(12)) {
-            case 0: return from;
-            case 1: return to;
-            case 2: return pick(2) == 0 ? from - 1 : to + 1;
+        switch (pick(24)) {
+            case 0: case 1: return from;
+            case 2: case 3: return to;
+            case 4: return from - 1;
+            case 5: return to + 1;
+            case 6: return pick(2) == 0 ? Integer.MIN_VALUE + pick(2) : Integer.MAX_VALUE - pick(2);
             default: return from + pick(to - from + 1);
         }
     }
@@ -88,6 +97,15 @@ public final class ModelTest {
             case 38: lookAtLog(); break;
             default: if (pick(8) == 0) call("bestBias", near(1, 100)); else lookAtBatch();
         }
+    }
+
+    private void wholeBatch() {
+        call("charge", 100 + pick(901));
+        call("run", near(1, 200));
+        call("drop");
+        call("run", near(1, 200));
+        call("takeAway");
+        lookAtLog();
     }
 
     private void type() {
