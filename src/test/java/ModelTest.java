@@ -3,8 +3,10 @@ import java.util.Arrays;
 /** Lets RoastKeeper and the Model answer the same long runs of calls, and compares every answer. */
 public final class ModelTest {
     private static final int RUNS = 1500;
-    /** With the last look at all, they stay under the 512 calls that the document promises. */
-    private static final int CALLS = 420;
+    private static final int TEXTS = 20000;
+    /** So many does the document promise; the last ones look at all. */
+    private static final int CALLS = 512;
+    private static final int LAST_LOOKS = 44;
 
     private final Check check = new Check();
     private RoastKeeper keeper;
@@ -12,21 +14,30 @@ public final class ModelTest {
     private long seed;
     private String run;
     private int calls;
+    private int limit;
 
     public static void main(String[] args) {
         ModelTest test = new ModelTest();
         for (int run = 1; run <= RUNS && test.check.allRight(); run++) {
             test.compareRun(run);
         }
+        for (int text = 1; text <= TEXTS && test.check.allRight(); text++) {
+            test.compareText(text);
+        }
         test.check.finish();
     }
 
-    private void compareRun(int number) {
+    private void begin(String name, int number) {
         keeper = new RoastKeeper();
         model = new Model();
         calls = 0;
+        limit = CALLS - LAST_LOOKS;
         seed = number * 7919L;
-        run = "run " + number + ", ";
+        run = name + " " + number + ", ";
+    }
+
+    private void compareRun(int number) {
+        begin("run", number);
         boolean hot = number % 3 != 0;
         if (hot) {
             call("setPower", 60 + pick(41));
@@ -34,15 +45,43 @@ public final class ModelTest {
         }
         // Only runs with many whole batches fill the log and come to the end of the time.
         boolean busy = number % 4 == 0;
-        while (calls < CALLS && check.allRight()) {
+        while (calls < limit && check.allRight()) {
             if (busy && pick(3) == 0) {
                 wholeBatch();
             } else {
                 step();
             }
         }
+        limit = CALLS;
         lookAtAll();
-        check.due(run + "no more than 512 calls", Math.max(calls, 512), 512);
+        check.due(run + "all its calls", calls, CALLS);
+    }
+
+    /** Texts of few kinds of characters, so that many of them are nearly a profile. */
+    private void compareText(int number) {
+        begin("text", number);
+        String characters = number % 2 == 0 ? "0123456789 ;" : "0014   ;;x";
+        int items = pick(10);
+        for (int n = 0; n < items && pick(12) > 0; n++) {
+            String item = pick(2) == 0 ? " " : "";
+            type(item + (n * 50 + pick(60)) + " " + pick(3100) + (pick(2) == 0 ? " ;" : ";"));
+        }
+        for (int n = pick(8); n > 0; n--) {
+            call("append", characters.charAt(pick(characters.length())));
+        }
+        call("load");
+        for (int what : new int[] {8, 11, 12}) {
+            call("count", what);
+        }
+        for (int tick = 0; tick <= 410; tick += 10) {
+            call("target", tick);
+        }
+    }
+
+    private void type(String text) {
+        for (char character : text.toCharArray()) {
+            call("append", character);
+        }
     }
 
     private int pick(int below) {
@@ -112,9 +151,7 @@ public final class ModelTest {
         String[] texts = {"0 900; 60 1500;120 1900;180 2150;", "5 1;5 2;", " 10 2000 ; 20", "01 2;", "401 1;",
             "0 1;1 1;2 1;3 1;4 1;5 1;6 1;7 1;", "0 1;1 1;2 1;3 1;4 1;5 1;6 1;7 1;8 1;", "3 3001;", "4 12345678901;",
             "7 8 9;", ";", "9 ;", "  ", "2 00;", "0 0;", "400 3000;", "1 2;x", "1,2;", "4294967297 1;"};
-        for (char character : texts[pick(texts.length)].toCharArray()) {
-            call("append", character);
-        }
+        type(texts[pick(texts.length)]);
         if (pick(10) == 0) {
             call("append", near(1, 255));
         }
@@ -146,6 +183,9 @@ public final class ModelTest {
     }
 
     private void call(String name, int... arguments) {
+        if (calls >= limit) {
+            return;
+        }
         calls++;
         int got = answer(keeper, name, arguments);
         int want = answer(model, name, arguments);
