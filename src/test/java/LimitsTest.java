@@ -16,6 +16,7 @@ public final class LimitsTest {
         lagOfTheProbe();
         driftOfFew();
         driftOfTheEight();
+        driftOfTheGreatest();
         historyFilled();
         historyOfActions();
         historyOfNoActions();
@@ -349,6 +350,20 @@ public final class LimitsTest {
         k.drop();
         // 1 0 0 0 1 0: 100 * (6 * 6 - 21 * 2) / (6 * 91 - 441) = -600 / 105
         due("rounded toward negative infinity", k.drift(1), -6);
+    }
+
+    /** One batch that roasts as long as there is time, at the greatest rate, beside one that does not at all. */
+    private static void driftOfTheGreatest() {
+        RoastKeeper k = Script.after("setRow 0 999", "charge 100", "drop", "takeAway", "charge 100", "50x run 200");
+        due("a loss is not bounded by the whole mass", k.batch(3), 9990000);
+        due("ticksToLoss of the whole mass", k.ticksToLoss(100000), 0);
+        due("drop", k.drop(), 9990000);
+        due("logged", k.logged(0, 4), 9990000);
+        due("drift of the losses 0 and 9990000", k.drift(4), 999000000);
+        due("drift of the ages 0 and 10000", k.drift(1), 1000000);
+        k = Script.after("setRow 0 999", "charge 100", "50x run 200", "drop", "takeAway", "charge 100", "drop");
+        due("drift of the losses 9990000 and 0", k.drift(4), -999000000);
+        due("drift of the ages 10000 and 0", k.drift(1), -1000000);
     }
 
     private static void historyFilled() {
