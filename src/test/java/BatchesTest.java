@@ -81,6 +81,10 @@ public final class BatchesTest {
         due("takeAway is an action: cooling again", k.count(1), 2);
         due("the beans are back", k.batch(0), 400);
         due("the ambient stays", k.count(4), 250);
+        k.setAmbient(200);
+        k.run(3);
+        // 400 - 20, 380 - 18, 362 - 16
+        due("takeAway tells the temperature that they have now", k.takeAway(), 346);
     }
 
     private static void run() {

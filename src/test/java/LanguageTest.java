@@ -25,10 +25,15 @@ public final class LanguageTest {
     private static final String[] FORBIDDEN = {"\\bthrow", "\\btry\\b", "\\bcatch\\b", "\\bsynchronized\\b",
         "\\bassert\\b", "\\bimport\\b", "\\bpackage\\b", "->", "::", "\\bstatic\\s*\\{", "\\bhashCode\\b",
         "\\btoString\\b", "Exact\\b", "\\bjava\\.", "\\bwhile\\b", "[^\\x00-\\x7f]"};
+    /** Java rounds these toward 0, the document rounds all divisions toward negative infinity. */
+    private static final String[] DIVISIONS = {"/", "%"};
 
     public static void main(String[] args) throws IOException {
         face();
+        constants();
+        privateMembers();
         nestedClasses();
+        sizes();
         words(Files.readString(Path.of("src/main/java/RoastKeeper.java")));
         CHECK.finish();
     }
@@ -40,6 +45,7 @@ public final class LanguageTest {
     private static void face() {
         Class<?> face = RoastKeeper.class;
         right("RoastKeeper is public and final", face.getModifiers() == (Modifier.PUBLIC | Modifier.FINAL));
+        right("it extends nothing", face.getSuperclass() == Object.class && face.getInterfaces().length == 0);
         right("one constructor", face.getDeclaredConstructors().length == 1);
         for (Constructor<?> constructor : face.getDeclaredConstructors()) {
             right("public, without parameters", Modifier.isPublic(constructor.getModifiers())
@@ -49,13 +55,68 @@ public final class LanguageTest {
         for (Method method : shown(face.getDeclaredMethods())) {
             methods.add(method.getName() + "/" + method.getParameterCount());
             right(method.getName() + " answers an int", method.getReturnType() == int.class);
+            right(method.getName() + " is public and of an object", method.getModifiers() == Modifier.PUBLIC);
+            for (Class<?> type : method.getParameterTypes()) {
+                right(method.getName() + " takes ints", type == int.class);
+            }
         }
+        right("no method stands there twice", shown(face.getDeclaredMethods()).size() == METHODS.size());
         right("the methods are the document's: " + methods, methods.equals(METHODS));
         Set<String> fields = new TreeSet<>();
         for (Field field : shown(face.getDeclaredFields())) {
             fields.add(field.getName());
         }
         right("the constants are the document's: " + fields, fields.equals(CONSTANTS));
+    }
+
+    private static void constants() {
+        for (Field field : shown(RoastKeeper.class.getDeclaredFields())) {
+            right(field.getName() + " is a constant", field.getModifiers()
+                == (Modifier.PUBLIC | Modifier.STATIC | Modifier.FINAL));
+            right(field.getName() + " is an int", field.getType() == int.class);
+        }
+    }
+
+    /** Names of the face, without the numbers of their parameters. */
+    private static Set<String> names() {
+        Set<String> names = new TreeSet<>();
+        METHODS.forEach(method -> names.add(method.substring(0, method.indexOf('/'))));
+        return names;
+    }
+
+    private static void privateMembers() {
+        for (Method method : RoastKeeper.class.getDeclaredMethods()) {
+            if (Modifier.isPrivate(method.getModifiers())) {
+                right(method + " bears no name of the face", !names().contains(method.getName()));
+            }
+        }
+        for (Field field : RoastKeeper.class.getDeclaredFields()) {
+            right(field + " is final if static", !Modifier.isStatic(field.getModifiers())
+                || Modifier.isFinal(field.getModifiers()));
+        }
+    }
+
+    private static List<Class<?>> all() {
+        List<Class<?>> all = new ArrayList<>(List.of(RoastKeeper.class.getDeclaredClasses()));
+        all.add(RoastKeeper.class);
+        return all;
+    }
+
+    /** Rules 3 and 11: types, parameters and fields. */
+    private static void sizes() {
+        for (Class<?> each : all()) {
+            int fields = 0;
+            for (Field field : each.getDeclaredFields()) {
+                Class<?> type = field.getType();
+                boolean own = all().contains(type.isArray() ? type.getComponentType() : type);
+                right(field + " is of a type that the rules name", own || type == int.class || type == int[].class);
+                fields += Modifier.isStatic(field.getModifiers()) ? 0 : 1;
+            }
+            right(each + " has at most twenty fields", fields <= 20);
+            for (Method method : each.getDeclaredMethods()) {
+                right(method + " takes at most seven parameters", method.getParameterCount() <= 7);
+            }
+        }
     }
 
     /** Those that are not private. */
@@ -70,8 +131,7 @@ public final class LanguageTest {
     }
 
     private static void nestedClasses() {
-        Set<String> names = new TreeSet<>();
-        METHODS.forEach(method -> names.add(method.substring(0, method.indexOf('/'))));
+        Set<String> names = names();
         right("at most twelve classes", RoastKeeper.class.getDeclaredClasses().length < 12);
         for (Class<?> nested : RoastKeeper.class.getDeclaredClasses()) {
             int modifiers = nested.getModifiers();
@@ -92,6 +152,9 @@ public final class LanguageTest {
         for (String word : FORBIDDEN) {
             Matcher found = Pattern.compile(word).matcher(code);
             right("without " + word, !found.find());
+        }
+        for (String division : DIVISIONS) {
+            right("without " + division, !code.contains(division));
         }
     }
 }

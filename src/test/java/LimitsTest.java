@@ -19,6 +19,7 @@ public final class LimitsTest {
         driftOfTheGreatest();
         historyFilled();
         historyOfActions();
+        historyOfNoChange();
         historyOfNoActions();
         textFilled();
         manyCalls();
@@ -267,6 +268,13 @@ public final class LimitsTest {
         k.undo();
         k.undo();
         due("undo takes the fouling back, too", k.count(6), 59);
+        k = Script.after("setProbe 1 5");
+        for (int n = 1; n <= 15; n++) {
+            k.charge(100);
+            k.drop();
+            due("lag after " + n + " batches", k.count(6), Math.min(60, 1 + 5 * n));
+            k.takeAway();
+        }
     }
 
     private static void driftOfFew() {
@@ -364,6 +372,20 @@ public final class LimitsTest {
         k = Script.after("setRow 0 999", "charge 100", "50x run 200", "drop", "takeAway", "charge 100", "drop");
         due("drift of the losses 9990000 and 0", k.drift(4), -999000000);
         due("drift of the ages 10000 and 0", k.drift(1), -1000000);
+        k = Script.after("setRow 0 999");
+        for (int n = 1; n < 8; n++) {
+            k.charge(100);
+            k.drop();
+            k.takeAway();
+        }
+        k.charge(100);
+        for (int n = 0; n < 50; n++) {
+            k.run(200);
+        }
+        k.drop();
+        // 100 * (8 * 8 - 36) * v / (8 * 204 - 36 * 36), where the dividend is far above what an int holds
+        due("drift of seven times 0 and 9990000", k.drift(4), 83250000);
+        due("drift of seven times 0 and 10000", k.drift(1), 83333);
     }
 
     private static void historyFilled() {
@@ -412,6 +434,20 @@ public final class LimitsTest {
                 due(what, k.undo(), left);
             }
             due(what, k.count(4), 250);
+        }
+    }
+
+    /** What changes nothing is successful, too. */
+    private static void historyOfNoChange() {
+        String[] calls = {"setAmbient 250", "setPower 0", "setController 0 50 5 50", "setProbe 4 0", "setCrack 1960 30",
+            "setFan 10", "setRow 1000 2", "load", "setPoint 7 70", "setRow 7 7"};
+        for (String call : calls) {
+            RoastKeeper k = Script.after(call, call, call);
+            due(call + " three times", k.count(11), 3);
+            due("undo", k.undo(), 2);
+            due("undo", k.undo(), 1);
+            due("undo", k.undo(), 0);
+            due("undo of no more", k.undo(), Check.STATE);
         }
     }
 

@@ -26,6 +26,8 @@ public final class TickEdgesTest {
         thresholdToDetect();
         thresholdToEnd();
         hottestBeans();
+        beansGrowingColder();
+        beansGrowingColderThatPop();
         forecastsComeTrue();
         forecastsOfTheLastTick();
         forecastsBeyondTheTime();
@@ -412,6 +414,9 @@ public final class TickEdgesTest {
             Check.NONE);
         due("not in another batch", hot("run 13", "drop", "setFan 50", "run 30", "takeAway", "charge 100").batch(7),
             Check.NONE);
+        k = hot("setCrack 1500 600", "run 11", "setCrack 2300 443", "run 1");
+        due("no pops in this tick", k.batch(5), 0);
+        due("those of the 5 before it are enough", k.batch(7), 12);
     }
 
     private static void thresholdToEnd() {
@@ -431,6 +436,7 @@ public final class TickEdgesTest {
         due("less than a greater threshold", k.batch(8), 9);
         k.run(1);
         due("not detected again: 245 are 104 at least", k.batch(7) * 100 + k.batch(8), 809);
+        due("pops go on when it has ended", k.batch(4), 20 + 83 + 142);
         due("not ended in another batch",
             hot("run 25", "drop", "setFan 50", "run 30", "takeAway", "charge 100").batch(8), Check.NONE);
     }
@@ -454,9 +460,57 @@ public final class TickEdgesTest {
         due("a new batch has its own", k.batch(9), 400);
     }
 
+    /** Beans at 400 in a drum of 250: all steps take the beans as they are, and not as they once were. */
+    private static void beansGrowingColder() {
+        String[] start = {"setAmbient 400", "setProbe 1 0", "setRow 0 1", "setRow 400 5", "charge 1000"};
+        // 250 + 30 / 10 + 8 and 400 - 7; 261 + 28 / 10 + 7 and 393 - 7; 270 + 26 / 10 + 6 and 386 - 6
+        int[] drums = {261, 270, 278, 286};
+        int[] beans = {393, 386, 380, 375};
+        RoastKeeper k = Script.after(start);
+        for (int n = 0; n < drums.length; n++) {
+            due("the probe follows the beans", k.run(1), beans[n]);
+            due("drum warmed", k.count(2), drums[n]);
+            due("beans", k.batch(0), beans[n]);
+            due("the rate is that of colder beans", k.batch(3), n + 1);
+            due("hottest", k.batch(9), 400);
+        }
+        due("they are as hot as they are", k.ticksTo(375), 0);
+        due("they were hotter, but are not", k.ticksTo(376), Check.NONE);
+        due("never that hot again", k.ticksTo(400), Check.NONE);
+        k.drop();
+        due("hottest in the log", k.logged(0, 5), 400);
+        k.setAmbient(275);
+        k.run(1);
+        due("cooled by 100 * 10 / 100", k.batch(0), 365);
+        due("takeAway tells what they are", k.takeAway(), 365);
+        due("the log stays", k.logged(0, 5), 400);
+    }
+
+    /** At age 30 the drum is at 1467 and the beans are at 1574, and they were at 1597. */
+    private static void beansGrowingColderThatPop() {
+        String[] start = {"setPower 100", "run 200", "setCrack 2300 30", "charge 1000", "setPower 0", "run 30"};
+        due("beans", answer("batch 0", start), 1574);
+        due("hottest", answer("batch 9", start), 1597);
+        // 1467 - 25 + 6; then 1574 - 7: 7 / 2 + 1 pops
+        RoastKeeper k = Script.after(Script.join(start, "setCrack 1560 30", "setRow 1580 99", "setProbe 1 0"));
+        int loss = k.batch(3);
+        due("the probe follows the beans", k.run(1), 1567);
+        due("drum", k.count(2), 1448);
+        due("pops", k.batch(5), 4);
+        due("loss", k.batch(3), loss + 6);
+        k.setCrack(1561, 30);
+        k.run(1);
+        due("beans", k.batch(0), 1560);
+        due("below the crack temperature, as they are", k.batch(5), 0);
+        due("ticksTo of what they were", k.ticksTo(1597), Check.NONE);
+        due("drop", k.drop(), loss + 12);
+        due("hottest in the log", k.logged(0, 5), 1597);
+    }
+
     private static void forecastsComeTrue() {
         String[][] starts = {States.ROASTING, Script.join(States.ROASTING, "removePoint 0"),
-            Script.join(States.ROASTING, "setController 0 60 7 40"), {"setPower 100", "charge 1000"}};
+            Script.join(States.ROASTING, "setController 0 60 7 40"), {"setPower 100", "charge 1000"},
+            {"setPoint 0 3000", "setController 1 50 5 50", "charge 200"}};
         for (String[] start : starts) {
             int beansBefore = answer("batch 0", start);
             int lossBefore = answer("batch 3", start);
@@ -464,11 +518,12 @@ public final class TickEdgesTest {
                 RoastKeeper k = Script.after(Script.join(start, "run " + tick));
                 int beans = k.batch(0);
                 int loss = k.batch(3);
-                if (beans > beansBefore && beans <= 3000) {
-                    due("ticksTo(" + beans + ")", answer("ticksTo " + beans, start), tick);
-                    due("ticksTo(" + (beansBefore + 1) + ")", answer("ticksTo " + (beansBefore + 1), start), tick);
-                    beansBefore = beans;
+                for (int wanted : new int[] {beansBefore + 1, beans}) {
+                    if (beans > beansBefore && wanted <= 3000) {
+                        due("ticksTo(" + wanted + ")", answer("ticksTo " + wanted, start), tick);
+                    }
                 }
+                beansBefore = Math.max(beansBefore, beans);
                 if (loss > lossBefore) {
                     due("ticksToLoss(" + loss + ")", answer("ticksToLoss " + loss, start), tick);
                     due("ticksToLoss(" + (lossBefore + 1) + ")", answer("ticksToLoss " + (lossBefore + 1), start), tick);
