@@ -5,7 +5,8 @@ import java.util.Map;
 
 /**
  * Every call in every kind of state: its answer, and each look after it. What a call changes is told in
- * due() and after(); all else has to stay as it was, and so has what no look shows (hidden()).
+ * due() and after(), or by the Model where there is much to work out; all else has to stay as it was, and so
+ * has what no look shows (hidden()).
  */
 public final class EachStateTest {
     private static final Check CHECK = new Check();
@@ -13,10 +14,23 @@ public final class EachStateTest {
     private static final List<String> LOOKS = looks();
 
     /** A state, with all of it that no look tells. */
-    private record State(String name, String[] calls, int fan, int fouling, String controller, String crack,
-            String text) {
+    private record State(String name, String[] calls, Hidden hidden) {
         RoastKeeper make() {
             return Script.after(calls);
+        }
+
+        Model model() {
+            Model model = new Model();
+            for (String call : calls) {
+                Script.play(model, call);
+            }
+            return model;
+        }
+    }
+
+    private record Hidden(int fan, int fouling, String controller, String crack, String points, String text) {
+        boolean hasPoint(int tick) {
+            return List.of(points.split(" ")).contains(Integer.toString(tick));
         }
     }
 
@@ -36,10 +50,10 @@ public final class EachStateTest {
     private static final int COOLING = 2;
 
     private static final String[] CALLS = {"setAmbient 123", "setAmbient same", "setPower 45", "setPower same",
-        "setController 1 33 44 55", "setController same", "setProbe 33 2", "setProbe same", "setCrack 1777 77",
-        "setCrack same", "setFan 33", "setFan same", "setPoint 0 1234", "setPoint 399 2345", "setPoint 400 1",
-        "removePoint 0", "removePoint 399", "removePoint 400", "setRow 7 8", "setRow 1000 3", "setRow 7 -1",
-        "setRow 1000 -1", "setRow 3000 -1", "append 32", "append 120", "clearText", "load", "charge 345", "drop",
+        "setController 1 33 44 55", "setController 0 61 7 41", "setController same", "setProbe 33 2", "setProbe same",
+        "setCrack 1777 77", "setCrack same", "setFan 33", "setFan same", "setPoint 0 1234", "setPoint 399 2345",
+        "setPoint 400 1", "removePoint 0", "removePoint 399", "removePoint 400", "setRow 7 8", "setRow 1000 3",
+        "setRow 7 -1", "setRow 1000 -1", "setRow 3000 -1", "append 32", "append 120", "clearText", "load", "charge 345", "drop",
         "takeAway", "run 1", "run 37", "undo", "count 0", "batch 9", "target 3", "rate 1000", "logged 7 0", "drift 4",
         "ticksTo 0", "ticksTo 3000", "ticksToLoss 0", "ticksToLoss 100000", "bestBias 1", "bestBias 7"};
 
@@ -56,11 +70,11 @@ public final class EachStateTest {
 
     private static List<String> looks() {
         List<String> looks = new ArrayList<>();
-        for (int what = 0; what <= 12; what++) {
-            looks.add("count " + what);
-        }
         for (int what = 0; what <= 9; what++) {
             looks.add("batch " + what);
+        }
+        for (int what = 0; what <= 12; what++) {
+            looks.add("count " + what);
         }
         for (int index = 0; index <= 8; index++) {
             for (int what = 0; what <= 5; what++) {
@@ -93,56 +107,85 @@ public final class EachStateTest {
     private static final String[] HOT = {"setPower 100", "run 200"};
     private static final String[] FULL_PROFILE = {"setPoint 0 900", "setPoint 20 1100", "setPoint 40 1300",
         "setPoint 60 1500", "setPoint 80 1600", "setPoint 200 2000", "setPoint 300 2200", "setPoint 399 2300"};
-    private static final String[] BARE_TABLE = {"setRow 1000 -1", "setRow 1500 -1", "setRow 1900 -1", "setRow 2100 -1"};
+    private static final String[] NO_ROWS = {"setRow 1000 -1", "setRow 1500 -1", "setRow 1900 -1", "setRow 2100 -1"};
 
     private static List<State> states() {
         List<State> states = new ArrayList<>();
-        String none = "";
-        phases(states, "new", new String[] {}, 10, 0, "0 50 5 50", "1960 30", none);
-        phases(states, "hot", Script.join(HOT, SETTINGS), 21, 0, "1 61 7 41", "1500 20", none);
+        phases(states, "new", States.NEW, new Hidden(10, 0, "0 50 5 50", "1960 30", "", ""));
+        String[] hot = Script.join(Script.join(HOT, SETTINGS), "setPoint 0 3000", "setProbe 60 1");
+        phases(states, "hot", hot, new Hidden(21, 1, "1 61 7 41", "1500 20", "0", ""));
+        phases(states, "full", full(), new Hidden(21, 5, "1 61 7 41", "1500 20", "0 20 40 60 80 200 300 399",
+            "5 6; 7 8;" + " ".repeat(91)));
+        String[] bare = Script.join(NO_ROWS, "setProbe 1 3", "setController 1 61 7 41", "setAmbient 0", "type 400");
+        phases(states, "bare", bare, new Hidden(10, 3, "1 61 7 41", "1960 30", "", "400"));
+        String[] lossless = Script.join(NO_ROWS, "setPower 30", "setProbe 1 0", "setPoint 0 500", "setPoint 399 800");
+        phases(states, "lossless", lossless, new Hidden(10, 0, "0 50 5 50", "1960 30", "0 399", ""));
+        popping(states);
+        late(states);
+        return states;
+    }
+
+    private static String[] full() {
         String[] full = {};
         for (int n = 1; n <= 9; n++) {
             full = Script.join(full, "charge " + 100 * n, "run " + (10 - n), "drop", "takeAway");
         }
         full = Script.join(Script.join(Script.join(full, HOT), SETTINGS), FULL_PROFILE);
-        full = Script.join(full, "setRow 0 1", "setRow 3000 99", "setProbe 58 5", "setAmbient 300",
-            "type 5 6; 7 8;", "91x append 32");
-        phases(states, "full", full, 21, 5, "1 61 7 41", "1500 20", "5 6; 7 8;" + " ".repeat(91));
-        String[] bare = Script.join(BARE_TABLE, "setProbe 1 3", "setController 1 61 7 41", "setAmbient 0", "type 400");
-        phases(states, "bare", bare, 10, 3, "1 61 7 41", "1960 30", "400");
-        late(states);
-        return states;
+        return Script.join(full, "setRow 0 1", "setRow 3000 99", "setProbe 58 5", "setAmbient 300", "type 5 6; 7 8;",
+            "91x append 32");
     }
 
-    /** The same settings with an empty roaster, a fresh batch, an older one, a hot one that cools, and a cold one. */
-    private static void phases(List<State> states, String name, String[] calls, int fan, int fouling,
-            String controller, String crack, String text) {
-        String[][] ends = {{}, {"charge 200"}, {"charge 200", "run 9"}, {"charge 200", "run 40"},
-            {"charge 200", "run 60", "run 100"}, {"charge 200", "run 40", "drop"},
-            {"charge 200", "run 40", "drop", "run 200"}, {"charge 200", "run 40", "5x setPower 0", "4x undo"},
-            {"charge 200", "run 40", "5x setPower 0", "5x undo"}, {"5x setPower 0", "4x undo"}, {"5x setPower 0", "5x undo"}};
+    /** An empty roaster, a fresh batch, older ones, a hot one that cools and a cold one, and histories cut short. */
+    private static void phases(List<State> states, String name, String[] calls, Hidden hidden) {
+        String[] empty = {};
+        String[] roasting = {"charge 200", "run 40"};
+        String[] cooled = {"charge 200", "run 40", "drop", "run 200"};
+        String[] emptied = {"setRow 0 999", "charge 1000", "run 150", "drop", "run 200", "takeAway"};
+        String[][] ends = {empty, {"charge 200"}, {"charge 200", "run 9"}, roasting,
+            {"charge 200", "run 60", "run 100"}, {"charge 200", "run 40", "drop"}, cooled, emptied};
         for (String[] end : ends) {
-            String[] all = Script.join(calls, end);
-            states.add(new State(name + ", " + String.join(", ", end), all, fan, fouling, controller, crack, text));
+            states.add(new State(name + ", " + String.join(", ", end), Script.join(calls, end), hidden));
         }
+        for (String[] end : new String[][] {empty, roasting, cooled}) {
+            for (String undos : new String[] {"4x undo", "5x undo"}) {
+                String[] all = Script.join(Script.join(calls, end), "5x setPower 0", undos);
+                states.add(new State(name + ", " + String.join(", ", end) + ", " + undos, all, hidden));
+            }
+        }
+    }
+
+    /** Batches with pops in each of the latest six ticks, and with nothing left of room, time or history. */
+    private static void popping(List<State> states) {
+        Hidden hidden = new Hidden(21, 0, "0 61 7 41", "1500 20", "0", "");
+        states.add(new State("popping", States.POPPING, hidden));
+        states.add(new State("popping, dropped", Script.join(States.POPPING, "drop"), hidden));
+        String[] full = Script.join(Script.join(HOT, FULL_PROFILE), "setRow 0 1", "setRow 3000 99", "100x append 32");
+        full = Script.join(full, "48x run 200", "run 187", "setCrack 1500 20", "charge 100", "run 9", "setCrack 1500 600",
+            "run 1", "setCrack 1500 20", "run 3", "5x setPower 0", "5x undo");
+        states.add(new State("popping, all full", full, new Hidden(10, 0, "0 50 5 50", "1500 20",
+            "0 20 40 60 80 200 300 399", " ".repeat(100))));
+        String[] fading = {"setPower 100", "run 200", "setPower 0", "setCrack 1500 20", "charge 600", "run 20"};
+        states.add(new State("popping, fading", fading, new Hidden(10, 0, "0 50 5 50", "1500 20", "", "")));
     }
 
     private static void late(List<State> states) {
-        String[] end = {"49x run 200"};
-        String[][] calls = {{"run 200"}, {"run 199"}, {"charge 300", "run 200"}, {"run 200", "charge 300"},
+        String[][] ends = {{"run 200"}, {"run 199"}, {"charge 300", "run 200"}, {"run 200", "charge 300"},
             {"charge 300", "run 100", "drop", "run 100"}};
-        for (String[] last : calls) {
-            String[] all = Script.join(Script.join(Script.join(HOT, SETTINGS), "type x", "setPoint 0 2000"),
-                "48x run 200");
-            states.add(new State("late, " + last[0], Script.join(all, last), 21, 0, "1 61 7 41", "1500 20", "x"));
+        String[] late = Script.join(Script.join(HOT, SETTINGS), "setAmbient 261", "setProbe 5 2", "type x",
+            "setPoint 0 2000", "48x run 200");
+        for (String[] end : ends) {
+            states.add(new State("late, " + String.join(", ", end), Script.join(late, end),
+                new Hidden(21, 2, "1 61 7 41", "1500 20", "0", "x")));
         }
-        states.add(new State("late and cold", Script.join(end, "run 200"), 10, 0, "0 50 5 50", "1960 30", ""));
+        states.add(new State("late and cold", new String[] {"50x run 200"},
+            new Hidden(10, 0, "0 50 5 50", "1960 30", "", "")));
     }
 
     private static void eachKindOfStateIsThere(List<State> states) {
-        String[] kinds = {"count 0=10000", "count 1=0", "count 1=1", "count 1=2", "count 5=0", "count 5=100", "count 6=1",
+        String[] kinds = {"count 0=0", "count 0=10000", "count 1=0", "count 1=1", "count 1=2", "count 5=0", "count 5=100", "count 6=1",
             "count 6=60", "count 8=0", "count 8=8", "count 9=0", "count 9=6", "count 10=0", "count 10=8", "count 11=0",
-            "count 11=1", "count 11=5", "count 12=0", "count 12=100", "batch 2=0", "batch 4=1000"};
+            "count 11=1", "count 11=5", "count 12=0", "count 12=100", "batch 2=0", "batch 4=1000",
+            "batch 4=995", "batch 6=995", "batch 7=8", "batch 8=10"};
         for (String kind : kinds) {
             String[] parts = kind.split("=");
             int found = 0;
@@ -162,18 +205,47 @@ public final class EachStateTest {
         RoastKeeper keeper = state.make();
         Integer due = due(before, call);
         int got = Script.play(keeper, call);
-        if (due != ANY) {
-            CHECK.due(where, got, due);
-        }
+        Model model = state.model();
+        int byModel = Script.play(model, call);
+        CHECK.due(where, got, due != ANY ? due : byModel);
         boolean refused = due != ANY && (due >= Check.FULL && due <= Check.INVALID || due <= -200000);
         Map<String, Integer> after = look(keeper);
         for (String look : LOOKS) {
             Integer want = refused ? before.told.get(look) : after(before, call, got, look);
-            if (want != ANY) {
-                CHECK.due(where + ", then " + look, after.get(look), want);
-            }
+            CHECK.due(where + ", then " + look, after.get(look), want != ANY ? want : Script.play(model, look));
         }
         hidden(state, call, refused);
+        undone(before, call, refused);
+    }
+
+    /** An undo after an action brings all back; after any other call it does what it would have done before. */
+    private static void undone(Before before, String call, boolean refused) {
+        String method = call.split(" ")[0];
+        if (method.equals("undo")) {
+            return;
+        }
+        RoastKeeper keeper = before.state.make();
+        boolean taken = isAction(method) && !refused;
+        if (!taken) {
+            keeper.undo();
+        }
+        Map<String, Integer> want = look(keeper);
+        if (taken) {
+            want.put("count 11", Math.min(5, before.at("count 11") + 1) - 1);
+        }
+        RoastKeeper other = before.state.make();
+        Script.play(other, call);
+        want.put("count 12", other.count(12));
+        other.undo();
+        Map<String, Integer> got = look(other);
+        for (String look : LOOKS) {
+            CHECK.due(before.state.name + ": " + call + ", then undo, then " + look, got.get(look), want.get(look));
+        }
+    }
+
+    private static boolean isAction(String method) {
+        return !List.of("append", "clearText", "undo", "count", "batch", "target", "rate", "logged", "drift", "ticksTo",
+            "ticksToLoss", "bestBias").contains(method);
     }
 
     /** The setting that changes nothing. */
@@ -182,10 +254,10 @@ public final class EachStateTest {
         return method + " " + switch (method) {
             case "setAmbient" -> keeper.count(4);
             case "setPower" -> keeper.count(5);
-            case "setController" -> state.controller;
-            case "setProbe" -> keeper.count(6) + " " + state.fouling;
-            case "setCrack" -> state.crack;
-            default -> state.fan;
+            case "setController" -> state.hidden.controller;
+            case "setProbe" -> keeper.count(6) + " " + state.hidden.fouling;
+            case "setCrack" -> state.hidden.crack;
+            default -> state.hidden.fan;
         };
     }
 
@@ -193,22 +265,23 @@ public final class EachStateTest {
         return Integer.parseInt(call.split(" ")[word]);
     }
 
-    /** The answer, or ANY if it is worked out in other tests. */
+    /** The answer, or ANY if the Model is to tell it. */
     private static Integer due(Before b, String call) {
         String method = call.split(" ")[0];
         switch (method) {
             case "setAmbient": return b.at("count 4");
             case "setPower": return b.at("count 5");
-            case "setController": return call.endsWith(b.state.controller) ? 0 : 1;
+            case "setController": return call.endsWith(b.state.hidden.controller) ? 0 : 1;
             case "setProbe": return b.at("count 6");
-            case "setCrack": return call.endsWith(b.state.crack) ? 0 : 1;
-            case "setFan": return b.state.fan;
-            case "setPoint": return has(b, number(call, 1)) ? b.at("count 8") : room(b.at("count 8"), 8);
-            case "removePoint": return has(b, number(call, 1)) ? b.at("target " + number(call, 1)) : Check.STATE;
+            case "setCrack": return call.endsWith(b.state.hidden.crack) ? 0 : 1;
+            case "setFan": return b.state.hidden.fan;
+            case "setPoint": return b.state.hidden.hasPoint(number(call, 1)) ? b.at("count 8") : room(b.at("count 8"), 8);
+            case "removePoint":
+                return b.state.hidden.hasPoint(number(call, 1)) ? b.at("target " + number(call, 1)) : Check.STATE;
             case "setRow": return dueOfRow(b, number(call, 1), number(call, 2));
             case "append": return room(b.at("count 12"), 100);
             case "clearText": return b.at("count 12");
-            case "load": return dueOfLoad(b.state.text);
+            case "load": return dueOfLoad(b.state.hidden.text);
             case "charge": return b.is(EMPTY) ? b.at("count 2") : Check.STATE;
             case "drop": return b.is(ROASTING) ? b.at("batch 3") : Check.STATE;
             case "takeAway":
@@ -226,11 +299,6 @@ public final class EachStateTest {
         return size < limit ? size + 1 : Check.FULL;
     }
 
-    /** The points of all these states, as far as the calls name them, are those of FULL_PROFILE or of late(). */
-    private static boolean has(Before b, int tick) {
-        return tick == 0 && b.at("count 8") > 0 || tick == 399 && b.at("count 8") == 8;
-    }
-
     private static int dueOfRow(Before b, int temperature, int rate) {
         int rows = b.at("count 9");
         boolean has = temperature == 1000 && rows >= 4 || temperature == 3000 && rows == 6;
@@ -241,7 +309,7 @@ public final class EachStateTest {
     }
 
     private static int dueOfLoad(String text) {
-        switch (text) {
+        switch (text.trim()) {
             case "": return 0;
             case "x": return -200000;
             case "400": return -200003;
@@ -256,12 +324,10 @@ public final class EachStateTest {
         return now >= wanted ? Integer.valueOf(0) : ANY;
     }
 
-    /** What a look tells after a call that was not refused, or ANY if that is worked out in other tests. */
+    /** What a look tells after a call that was not refused, or ANY if the Model is to tell that. */
     private static Integer after(Before b, String call, int answer, String look) {
         String method = call.split(" ")[0];
-        boolean action = !List.of("append", "clearText", "undo", "count", "batch", "target", "rate", "logged", "drift",
-            "ticksTo", "ticksToLoss", "bestBias").contains(method);
-        if (action && look.equals("count 11")) {
+        if (isAction(method) && look.equals("count 11")) {
             return Math.min(5, b.at("count 11") + 1);
         }
         switch (method + "; " + look) {
@@ -274,7 +340,7 @@ public final class EachStateTest {
             case "charge; count 1": return ROASTING;
             case "charge; count 7": return 0;
             case "drop; count 1": return COOLING;
-            case "drop; count 6": return Math.min(60, b.at(look) + b.state.fouling);
+            case "drop; count 6": return Math.min(60, b.at(look) + b.state.hidden.fouling);
             case "drop; count 10": return Math.min(8, b.at(look) + 1);
             case "takeAway; count 1": return EMPTY;
             case "undo; count 12": return b.at(look);
@@ -317,7 +383,7 @@ public final class EachStateTest {
     }
 
     private static Integer afterRun(Before b, int ticks, String look) {
-        boolean steered = b.is(ROASTING) && b.state.controller.startsWith("1") && b.at("count 8") > 0;
+        boolean steered = b.is(ROASTING) && b.state.hidden.controller.startsWith("1") && b.at("count 8") > 0;
         switch (look) {
             case "count 0": return b.at(look) + ticks;
             case "count 2": case "count 3": return ANY;
@@ -339,21 +405,21 @@ public final class EachStateTest {
         }
         String where = state.name + ": " + call + ", then ";
         String[] then = Script.join(state.calls, call);
-        String fan = method.equals("setFan") ? call : "setFan " + state.fan;
+        String fan = method.equals("setFan") ? call : "setFan " + state.hidden.fan;
         CHECK.due(where + fan, Script.play(Script.after(then), fan), number(fan, 1));
-        String controller = method.equals("setController") ? call : "setController " + state.controller;
+        String controller = method.equals("setController") ? call : "setController " + state.hidden.controller;
         CHECK.due(where + controller, Script.play(Script.after(then), controller), 0);
-        String crack = method.equals("setCrack") ? call : "setCrack " + state.crack;
+        String crack = method.equals("setCrack") ? call : "setCrack " + state.hidden.crack;
         CHECK.due(where + crack, Script.play(Script.after(then), crack), 0);
-        int fouling = method.equals("setProbe") ? number(call, 2) : state.fouling;
-        foulingIs(where, then, fouling);
+        int fouling = method.equals("setProbe") ? number(call, 2) : state.hidden.fouling;
+        nextDrop(where, then, fouling);
         if (!List.of("append", "clearText", "load").contains(method) || refused) {
-            CHECK.due(where + "load", Script.play(Script.after(then), "load"), dueOfLoad(state.text));
+            CHECK.due(where + "load", Script.play(Script.after(then), "load"), dueOfLoad(state.hidden.text));
         }
     }
 
-    /** The fouling shows when a batch is dropped; beans that are too hot to be taken away are brought back by undo(). */
-    private static void foulingIs(String where, String[] then, int fouling) {
+    /** The fouling shows when a batch is dropped, and so does the number of the batch. */
+    private static void nextDrop(String where, String[] then, int fouling) {
         RoastKeeper keeper = Script.after(then);
         keeper.setFan(50);
         keeper.setAmbient(400);
@@ -365,9 +431,11 @@ public final class EachStateTest {
             keeper.charge(100);
         }
         int lag = keeper.count(6);
+        int former = Math.max(0, keeper.logged(0, 0));
         if (keeper.count(1) == ROASTING) {
             keeper.drop();
             CHECK.due(where + "what fouling there is", keeper.count(6), Math.min(60, lag + fouling));
+            CHECK.due(where + "the number of the next batch", keeper.logged(0, 0), former + 1);
         }
     }
 }

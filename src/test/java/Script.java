@@ -11,15 +11,16 @@ import java.util.Map;
  * "type 0 900;" appends each character of "0 900;".
  */
 final class Script {
-    private static final Map<String, Method> METHODS = methods();
+    private static final Map<Class<?>, Map<String, Method>> METHODS = new HashMap<>();
     private static final Map<String, List<Call>> PARSED = new HashMap<>();
 
-    private record Call(Method method, Object[] arguments) {
-        int on(RoastKeeper keeper) {
+    private record Call(String name, Object[] arguments) {
+        int on(Object roaster) {
+            Method method = METHODS.computeIfAbsent(roaster.getClass(), Script::methods).get(name);
             try {
-                return (int) method.invoke(keeper, arguments);
+                return (int) method.invoke(roaster, arguments);
             } catch (ReflectiveOperationException e) {
-                throw new IllegalStateException(method.getName() + Arrays.toString(arguments), e);
+                throw new IllegalStateException(name + Arrays.toString(arguments), e);
             }
         }
     }
@@ -27,21 +28,21 @@ final class Script {
     private Script() {
     }
 
-    private static Map<String, Method> methods() {
+    private static Map<String, Method> methods(Class<?> roaster) {
         Map<String, Method> methods = new HashMap<>();
-        for (Method method : RoastKeeper.class.getDeclaredMethods()) {
-            if (Modifier.isPublic(method.getModifiers())) {
+        for (Method method : roaster.getDeclaredMethods()) {
+            if (!Modifier.isPrivate(method.getModifiers())) {
                 methods.put(method.getName(), method);
             }
         }
         return methods;
     }
 
-    /** The answer of the last one of the calls that this text tells. */
-    static int play(RoastKeeper keeper, String text) {
+    /** The answer of the last one of the calls that this text tells, by a RoastKeeper or a Model. */
+    static int play(Object roaster, String text) {
         int answer = 0;
         for (Call call : PARSED.computeIfAbsent(text, Script::parse)) {
-            answer = call.on(keeper);
+            answer = call.on(roaster);
         }
         return answer;
     }
@@ -74,7 +75,7 @@ final class Script {
         List<Call> calls = new ArrayList<>();
         if (text.startsWith("type ")) {
             for (char character : text.substring(5).toCharArray()) {
-                calls.add(new Call(METHODS.get("append"), new Object[] {(int) character}));
+                calls.add(new Call("append", new Object[] {(int) character}));
             }
             return calls;
         }
@@ -86,12 +87,12 @@ final class Script {
         for (int n = 0; n < arguments.length; n++) {
             arguments[n] = Integer.parseInt(words[name + 1 + n]);
         }
-        Method method = METHODS.get(words[name]);
+        Method method = METHODS.computeIfAbsent(RoastKeeper.class, Script::methods).get(words[name]);
         if (method == null || method.getParameterCount() != arguments.length) {
             throw new IllegalStateException("no such call: " + text);
         }
         for (int n = 0; n < times; n++) {
-            calls.add(new Call(method, arguments));
+            calls.add(new Call(words[name], arguments));
         }
         return calls;
     }

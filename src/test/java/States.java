@@ -9,9 +9,13 @@ final class States {
     static final String[] ROASTING = Script.join(EMPTY, "charge 300", "run 12");
     /** Too hot to be taken away. */
     static final String[] COOLING = Script.join(ROASTING, "drop", "run 2");
+    /** A batch with pops in each of the latest six ticks, whose crack was detected at age 8 and ended at age 10. */
+    static final String[] POPPING = {"setPower 100", "run 200", "setFan 21", "setController 0 61 7 41",
+        "setPoint 0 3000", "setCrack 1500 20", "charge 100", "run 9", "setCrack 1500 600", "run 1", "setCrack 1500 20",
+        "run 3"};
 
-    static final String[] NAMES = {"new", "empty", "roasting", "cooling"};
-    static final String[][] ALL = {NEW, EMPTY, ROASTING, COOLING};
+    static final String[] NAMES = {"new", "empty", "roasting", "cooling", "popping"};
+    static final String[][] ALL = {NEW, EMPTY, ROASTING, COOLING, POPPING};
 
     private States() {
     }

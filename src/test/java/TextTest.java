@@ -302,6 +302,33 @@ public final class TextTest {
         due("so there is no profile", k.target(0), Check.NONE);
         k.undo();
         due("undo brings it back", k.target(0), 9);
+        for (int n = 0; n <= 8; n++) {
+            for (int m = 0; m <= 8; m++) {
+                oneLoadAfter(n, m);
+            }
+        }
+    }
+
+    /** So many points, and then so many: nothing of the former text has a part in the latter. */
+    private static void oneLoadAfter(int former, int latter) {
+        String[] items = {"0 1;", "1 1;", "2 1;", "3 1;", "4 1;", "5 1;", "6 1;", "7 1;"};
+        RoastKeeper k = new RoastKeeper();
+        for (int n = 0; n < former; n++) {
+            Check.type(k, items[n]);
+        }
+        Check.type(k, "x");
+        due("an error behind " + former + " items", k.load(), -200000 - 4 * former);
+        k.clearText();
+        for (int n = 0; n < former; n++) {
+            Check.type(k, items[n]);
+        }
+        due("load of " + former + " items", k.load(), former);
+        for (int n = 0; n < latter; n++) {
+            Check.type(k, items[n]);
+        }
+        due("load of " + latter + " items after " + former, k.load(), latter);
+        due("points", k.count(8), latter);
+        due("text", k.count(12), 0);
     }
 
     private static void reads(String text, int points) {
@@ -309,6 +336,7 @@ public final class TextTest {
         Check.type(k, text);
         due("load of '" + text + "'", k.load(), points);
         due("points of '" + text + "'", k.count(8), points);
+        due("length of the text after it", k.count(12), 0);
     }
 
     private static void failsAt(String text, int position) {

@@ -498,10 +498,11 @@ public final class TickEdgesTest {
         due("drum", k.count(2), 1448);
         due("pops", k.batch(5), 4);
         due("loss", k.batch(3), loss + 6);
-        k.setCrack(1561, 30);
+        k.setCrack(1590, 30);
         k.run(1);
         due("beans", k.batch(0), 1560);
         due("below the crack temperature, as they are", k.batch(5), 0);
+        due("all pops stay", k.batch(4), 4);
         due("ticksTo of what they were", k.ticksTo(1597), Check.NONE);
         due("drop", k.drop(), loss + 12);
         due("hottest in the log", k.logged(0, 5), 1597);

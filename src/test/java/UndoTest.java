@@ -39,6 +39,10 @@ public final class UndoTest {
                 }
             }
         }
+        String[] colder = withoutHistory(new String[] {"setAmbient 400", "charge 1000", "run 4"});
+        for (String action : new String[] {"run 1", "run 200", "drop", "setPower 100"}) {
+            due("undo", Twins.unchanged(CHECK, "colder than once", colder, action, "undo"), 0);
+        }
         String[] cooled = withoutHistory(Script.join(States.COOLING, "run 100"));
         due("undo of takeAway", Twins.unchanged(CHECK, "cooled", cooled, "takeAway", "undo"), 0);
         for (int n = 0; n < ACTIONS.length; n++) {
