@@ -50,12 +50,13 @@ public final class EachStateTest {
     private static final int COOLING = 2;
 
     private static final String[] CALLS = {"setAmbient 123", "setAmbient same", "setPower 45", "setPower same",
-        "setController 1 33 44 55", "setController 0 61 7 41", "setController same", "setProbe 33 2", "setProbe same",
+        "setController 1 33 44 55", "setController 0 6 2 41", "setController same", "setProbe 33 2", "setProbe same",
         "setCrack 1777 77", "setCrack same", "setFan 33", "setFan same", "setPoint 0 1234", "setPoint 399 2345",
         "setPoint 400 1", "removePoint 0", "removePoint 399", "removePoint 400", "setRow 7 8", "setRow 1000 3",
-        "setRow 7 -1", "setRow 1000 -1", "setRow 3000 -1", "append 32", "append 120", "clearText", "load", "charge 345", "drop",
-        "takeAway", "run 1", "run 37", "undo", "count 0", "batch 9", "target 3", "rate 1000", "logged 7 0", "drift 4",
-        "ticksTo 0", "ticksTo 3000", "ticksToLoss 0", "ticksToLoss 100000", "bestBias 1", "bestBias 7"};
+        "setRow 7 -1", "setRow 1000 -1", "setRow 3000 -1", "append 32", "append 120", "clearText", "load",
+        "charge 345", "drop", "takeAway", "run 1", "run 37", "undo", "count 0", "batch 9", "target 3", "rate 1000",
+        "logged 7 0", "drift 4", "ticksTo 0", "ticksTo 700", "ticksTo 1700", "ticksTo 3000", "ticksToLoss 0",
+        "ticksToLoss 600", "ticksToLoss 100000", "bestBias 1", "bestBias 7", "bestBias 60"};
 
     public static void main(String[] args) {
         List<State> states = states();
@@ -103,7 +104,7 @@ public final class EachStateTest {
 
     // ---- the states
 
-    private static final String[] SETTINGS = {"setFan 21", "setController 1 61 7 41", "setCrack 1500 20"};
+    private static final String[] SETTINGS = {"setFan 21", "setController 1 6 2 41", "setCrack 1500 20"};
     private static final String[] HOT = {"setPower 100", "run 200"};
     private static final String[] FULL_PROFILE = {"setPoint 0 900", "setPoint 20 1100", "setPoint 40 1300",
         "setPoint 60 1500", "setPoint 80 1600", "setPoint 200 2000", "setPoint 300 2200", "setPoint 399 2300"};
@@ -113,13 +114,14 @@ public final class EachStateTest {
         List<State> states = new ArrayList<>();
         phases(states, "new", States.NEW, new Hidden(10, 0, "0 50 5 50", "1960 30", "", ""));
         String[] hot = Script.join(Script.join(HOT, SETTINGS), "setPoint 0 3000", "setProbe 60 1");
-        phases(states, "hot", hot, new Hidden(21, 1, "1 61 7 41", "1500 20", "0", ""));
-        phases(states, "full", full(), new Hidden(21, 5, "1 61 7 41", "1500 20", "0 20 40 60 80 200 300 399",
+        phases(states, "hot", hot, new Hidden(21, 1, "1 6 2 41", "1500 20", "0", ""));
+        phases(states, "full", full(), new Hidden(21, 5, "1 6 2 41", "1500 20", "0 20 40 60 80 200 300 399",
             "5 6; 7 8;" + " ".repeat(91)));
-        String[] bare = Script.join(NO_ROWS, "setProbe 1 3", "setController 1 61 7 41", "setAmbient 0", "type 400");
-        phases(states, "bare", bare, new Hidden(10, 3, "1 61 7 41", "1960 30", "", "400"));
-        String[] lossless = Script.join(NO_ROWS, "setPower 30", "setProbe 1 0", "setPoint 0 500", "setPoint 399 800");
-        phases(states, "lossless", lossless, new Hidden(10, 0, "0 50 5 50", "1960 30", "0 399", ""));
+        String[] bare = Script.join(NO_ROWS, "setRow 0 3", "setProbe 1 3", "setController 1 6 2 41", "setAmbient 0", "type 400");
+        phases(states, "bare", bare, new Hidden(10, 3, "1 6 2 41", "1960 30", "", "400"));
+        String[] lossless = Script.join(NO_ROWS, "setPower 30", "setProbe 1 2", "setPoint 0 500", "setPoint 399 800",
+            "type 1 2;3 4;");
+        phases(states, "lossless", lossless, new Hidden(10, 2, "0 50 5 50", "1960 30", "0 399", "1 2;3 4;"));
         popping(states);
         late(states);
         return states;
@@ -156,7 +158,7 @@ public final class EachStateTest {
 
     /** Batches with pops in each of the latest six ticks, and with nothing left of room, time or history. */
     private static void popping(List<State> states) {
-        Hidden hidden = new Hidden(21, 0, "0 61 7 41", "1500 20", "0", "");
+        Hidden hidden = new Hidden(21, 0, "0 6 2 41", "1500 20", "0", "");
         states.add(new State("popping", States.POPPING, hidden));
         states.add(new State("popping, dropped", Script.join(States.POPPING, "drop"), hidden));
         String[] full = Script.join(Script.join(HOT, FULL_PROFILE), "setRow 0 1", "setRow 3000 99", "100x append 32");
@@ -175,17 +177,17 @@ public final class EachStateTest {
             "setPoint 0 2000", "48x run 200");
         for (String[] end : ends) {
             states.add(new State("late, " + String.join(", ", end), Script.join(late, end),
-                new Hidden(21, 2, "1 61 7 41", "1500 20", "0", "x")));
+                new Hidden(21, 2, "1 6 2 41", "1500 20", "0", "x")));
         }
         states.add(new State("late and cold", new String[] {"50x run 200"},
             new Hidden(10, 0, "0 50 5 50", "1960 30", "", "")));
     }
 
     private static void eachKindOfStateIsThere(List<State> states) {
-        String[] kinds = {"count 0=0", "count 0=10000", "count 1=0", "count 1=1", "count 1=2", "count 5=0", "count 5=100", "count 6=1",
-            "count 6=60", "count 8=0", "count 8=8", "count 9=0", "count 9=6", "count 10=0", "count 10=8", "count 11=0",
-            "count 11=1", "count 11=5", "count 12=0", "count 12=100", "batch 2=0", "batch 4=1000",
-            "batch 4=995", "batch 6=995", "batch 7=8", "batch 8=10"};
+        String[] kinds = {"count 0=0", "count 0=10000", "count 1=0", "count 1=1", "count 1=2", "count 5=0",
+            "count 5=100", "count 6=1", "count 6=60", "count 8=0", "count 8=8", "count 9=0", "count 9=6", "count 10=0",
+            "count 10=8", "count 11=0", "count 11=1", "count 11=5", "count 12=0", "count 12=100",
+            "batch 2=0", "batch 4=1000", "batch 4=995", "batch 6=995", "batch 7=8", "batch 8=10"};
         for (String kind : kinds) {
             String[] parts = kind.split("=");
             int found = 0;

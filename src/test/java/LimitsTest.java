@@ -210,6 +210,32 @@ public final class LimitsTest {
         due("undo of the ninth drop: the first batch is back", k.logged(7, 0), 1);
         due("the eighth is the latest", k.logged(0, 0), 8);
         due("8 in the log", k.count(10), 8);
+        for (int batches = 2; batches <= 12; batches++) {
+            k = new RoastKeeper();
+            for (int n = 1; n <= batches; n++) {
+                k.charge(100);
+                k.drop();
+                k.takeAway();
+            }
+            k.undo();
+            k.undo();
+            undoneTo(k, batches, batches - 1);
+            k.undo();
+            k.undo();
+            k.undo();
+            undoneTo(k, batches, batches - 2);
+        }
+    }
+
+    /** The drops of all batches but so many were taken back. */
+    private static void undoneTo(RoastKeeper k, int batches, int left) {
+        String after = "of " + batches + " batches, after undo of all but " + left + ": ";
+        due(after + "in the log", k.count(10), Math.min(left, 8));
+        for (int index = 0; index <= 8; index++) {
+            int number = index < Math.min(left, 8) ? left - index : Check.NONE;
+            due(after + "number of " + index, k.logged(index, 0), number);
+        }
+        due(after + "drift", k.drift(1), left < 2 ? Check.NONE : 0);
     }
 
     /** The drum is hot: the crack is detected at age 9 and ends at age 19 (see BatchesTest). */

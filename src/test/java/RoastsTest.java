@@ -18,7 +18,9 @@ public final class RoastsTest {
         byPower();
         byController();
         cooling();
+        losses();
         batchesAfterOthers();
+        hotBatchesBroughtBack();
         lateRoasts();
         CHECK.finish();
     }
@@ -107,6 +109,20 @@ public final class RoastsTest {
         eachTick(Script.join(old, "setPower 0", "run 50", "run 100", "takeAway"), 200);
     }
 
+    /** Without any rows, and with so great a rate that more than the whole mass is lost before the crack. */
+    private static void losses() {
+        String[] none = Script.join(HOT, "setRow 1000 -1", "setRow 1500 -1", "setRow 1900 -1", "setRow 2100 -1");
+        eachTick(Script.join(none, "setCrack 1500 60", "charge 300"), LAST);
+        eachTick(Script.join(none, "setCrack 1500 60", "charge 300", "run 12", "drop"), 60);
+        String[] all = {"setRow 0 999", "setRow 1000 999", "setRow 1500 999", "setRow 1900 999", "setRow 2100 999"};
+        String[] slow = Script.join(all, "setCrack 1500 20", "setPower 55", "charge 1000");
+        eachTick(slow, LAST);
+        eachTick(Script.join(slow, "run 150", "drop"), 60);
+        for (int ticks = 150; ticks <= 200; ticks++) {
+            same(Script.join(slow, "run " + ticks, "run 40", "undo"));
+        }
+    }
+
     /** Nothing of a batch is left in the next one, however rich it was, and undo() brings all of it back. */
     private static void batchesAfterOthers() {
         String[][] firsts = {{"charge 1000", "run 200", "drop"}, {"charge 200", "run 200", "drop"},
@@ -127,11 +143,26 @@ public final class RoastsTest {
         }
     }
 
+    /** From a batch that is cold and young, or from none, back to one that was at its hottest. */
+    private static void hotBatchesBroughtBack() {
+        String[] start = Script.join(HOT, "setFan 50", "setCrack 1500 60");
+        for (String mass : new String[] {"charge 100", "charge 1000"}) {
+            for (String ticks : new String[] {"run 9", "run 12", "run 40", "run 199"}) {
+                String[] calls = Script.join(start, mass, ticks, "drop", "run 60", "takeAway", "charge 400", "run 1");
+                for (int undos = 1; undos <= 5; undos++) {
+                    same(Script.join(calls, undos + "x undo"));
+                    same(Script.join(calls, undos + "x undo", "run 2"));
+                }
+            }
+        }
+    }
+
     /** The cold roaster stays as it is for 9000 ticks, and a roast is the same then. */
     private static void lateRoasts() {
         String[] late = {"45x run 200"};
         eachTick(Script.join(late, "setPower 100", "run 200", "setCrack 1500 60", "charge 300"), 350);
-        String[] steered = Script.join(Script.join(late, PROFILE), "setController 1 50 5 50", "setCrack 1700 9", "charge 300");
+        String[] steered = Script.join(Script.join(late, PROFILE), "setController 1 50 5 50", "setCrack 1700 9",
+            "charge 300");
         eachTick(steered, LAST);
         eachTick(Script.join(steered, "run 150", "drop"), 200);
     }

@@ -10,7 +10,7 @@ final class States {
     /** Too hot to be taken away. */
     static final String[] COOLING = Script.join(ROASTING, "drop", "run 2");
     /** A batch with pops in each of the latest six ticks, whose crack was detected at age 8 and ended at age 10. */
-    static final String[] POPPING = {"setPower 100", "run 200", "setFan 21", "setController 0 61 7 41",
+    static final String[] POPPING = {"setPower 100", "run 200", "setFan 21", "setController 0 6 2 41",
         "setPoint 0 3000", "setCrack 1500 20", "charge 100", "run 9", "setCrack 1500 600", "run 1", "setCrack 1500 20",
         "run 3"};
 

@@ -158,6 +158,12 @@ public final class TickEdgesTest {
         due("the sum becomes 0 when charged", k.count(7), 0);
         k.undo();
         due("undo brings it back", k.count(7), 3000);
+        k = still();
+        k.run(1);
+        k.drop();
+        k.takeAway();
+        k.charge(100);
+        due("the sum becomes 0 at each time", k.count(7), 0);
     }
 
     /** The power after the first tick: the deviation is the target minus 250, and so is the sum. */
@@ -598,6 +604,13 @@ public final class TickEdgesTest {
             due(call + ", without P and I", answer(call, bare), best(ticks, 0, 0, bare));
             due(call + ", with a jump", answer(call, jump), best(ticks, 50, 5, jump));
         }
+        // rounding makes the sums rise and fall over the biases: the first dip need not be the deepest one
+        String[] uneven = {"setPower 60", "run 20", "setPoint 0 600", "setController 1 2 0 50", "charge 100"};
+        due("the deepest dip", answer("bestBias 3", uneven), 92);
+        due("the deepest dip comes true", best(3, 2, 0, uneven), 92);
+        String[] cold = {"setPower 60", "setPoint 0 300", "setController 1 5 0 50", "charge 400"};
+        due("the deepest dip", answer("bestBias 11", cold), 61);
+        due("the deepest dip comes true", best(11, 5, 0, cold), 61);
     }
 
     private static void bestBiasOfSeveral() {
