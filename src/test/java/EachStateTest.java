@@ -115,8 +115,11 @@ public final class EachStateTest {
         phases(states, "new", States.NEW, new Hidden(10, 0, "0 50 5 50", "1960 30", "", ""));
         String[] hot = Script.join(Script.join(HOT, SETTINGS), "setPoint 0 3000", "setProbe 60 1");
         phases(states, "hot", hot, new Hidden(21, 1, "1 6 2 41", "1500 20", "0", ""));
-        phases(states, "full", full(), new Hidden(21, 5, "1 6 2 41", "1500 20", "0 20 40 60 80 200 300 399",
-            "5 6; 7 8;" + " ".repeat(91)));
+        String text = "5 6; 7 8;" + " ".repeat(91);
+        String points = "0 20 40 60 80 200 300 399";
+        phases(states, "full", full(), new Hidden(21, 5, "1 6 2 41", "1500 20", points, text));
+        String[] off = Script.join(full(), "setController 0 6 2 41", "setProbe 4 3", "setPower 30", "run 200");
+        phases(states, "full, but off", off, new Hidden(21, 3, "0 6 2 41", "1500 20", points, text));
         String[] bare = Script.join(NO_ROWS, "setRow 0 3", "setProbe 1 3", "setController 1 6 2 41", "setAmbient 0", "type 400");
         phases(states, "bare", bare, new Hidden(10, 3, "1 6 2 41", "1960 30", "", "400"));
         String[] lossless = Script.join(NO_ROWS, "setPower 30", "setProbe 1 2", "setPoint 0 500", "setPoint 399 800",

@@ -224,6 +224,9 @@ public final class LimitsTest {
             k.undo();
             k.undo();
             undoneTo(k, batches, batches - 2);
+            k.charge(100);
+            k.drop();
+            due("the number is free again", k.logged(0, 0), batches - 1);
         }
     }
 

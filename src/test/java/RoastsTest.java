@@ -79,6 +79,7 @@ public final class RoastsTest {
                 eachTick(Script.join(HOT, batch), LAST);
                 eachTick(Script.join(Script.join(HOT, "setCrack 1500 90", "setProbe 1 0", "setAmbient 0"), batch), LAST);
                 eachTick(Script.join(Script.join(HOT, "setCrack 1700 600", "setProbe 60 0", "setAmbient 400"), batch), LAST);
+                eachTick(Script.join(Script.join(HOT, "setCrack 2300 1"), batch), LAST);
             }
         }
     }
@@ -121,6 +122,7 @@ public final class RoastsTest {
         for (int ticks = 150; ticks <= 200; ticks++) {
             same(Script.join(slow, "run " + ticks, "run 40", "undo"));
         }
+        eachTick(Script.join(slow, "setCrack 1500 600", "run 124", "setCrack 1500 1"), 20);
     }
 
     /** Nothing of a batch is left in the next one, however rich it was, and undo() brings all of it back. */
@@ -128,7 +130,8 @@ public final class RoastsTest {
         String[][] firsts = {{"charge 1000", "run 200", "drop"}, {"charge 200", "run 200", "drop"},
             {"charge 300", "run 9", "drop"}, {"charge 100", "run 13", "drop"}, {"charge 1000", "drop"},
             {"setRow 0 999", "charge 700", "run 150", "drop"}, {"charge 1000", "setPower 0", "run 50", "drop"},
-            {"charge 1000", "setPower 0", "run 120", "setPower 100", "drop"}};
+            {"charge 1000", "setPower 0", "run 120", "setPower 100", "drop"},
+            {"charge 100", "run 9", "setCrack 1500 600", "run 1", "setCrack 1500 60", "run 3", "drop"}};
         for (String[] first : firsts) {
             for (String mass : new String[] {"charge 100", "charge 1000"}) {
                 String[] start = Script.join(Script.join(HOT, "setCrack 1500 60"), first);
@@ -149,9 +152,12 @@ public final class RoastsTest {
         for (String mass : new String[] {"charge 100", "charge 1000"}) {
             for (String ticks : new String[] {"run 9", "run 12", "run 40", "run 199"}) {
                 String[] calls = Script.join(start, mass, ticks, "drop", "run 60", "takeAway", "charge 400", "run 1");
+                String[] more = Script.join(start, "setRow 0 999", mass, ticks, "5x setPower 100", "drop", "run 60",
+                    "takeAway", "charge 400", "5x setPower 100", "run 1");
                 for (int undos = 1; undos <= 5; undos++) {
                     same(Script.join(calls, undos + "x undo"));
                     same(Script.join(calls, undos + "x undo", "run 2"));
+                    same(Script.join(more, undos + "x undo"));
                 }
             }
         }
@@ -165,5 +171,6 @@ public final class RoastsTest {
             "charge 300");
         eachTick(steered, LAST);
         eachTick(Script.join(steered, "run 150", "drop"), 200);
+        eachTick(Script.join(steered, "run 5", "drop", "setFan 50", "run 30", "takeAway", "charge 100"), 20);
     }
 }
